@@ -39,7 +39,7 @@ public final class GrammarMachine {
     /** 55 pairs of places, by 104: rules times captures is not more if both have to be in the text. */
     private static final int MOST_KEPT = 55 * 104;
 
-    /** Some fifty million are the most that 1000 tries leave room for. */
+    /** Between two tries no more than some 50000 have room, so 1001 times that is far below. */
     private static final int MOST_STEPS = 1000000000;
 
     // Kinds of nodes of the tree of a grammar.
@@ -1107,7 +1107,7 @@ public final class GrammarMachine {
             for (int open = frames; open > 0; open--) {
                 pop();
                 if (frameRules[frames] != NONE) {
-                    memory.keepFailure(frameRules[frames], framePlaces[frames]);
+                    failRule();
                 } else if (frameTargets[frames] != NONE) {
                     restore();
                     at = frameTargets[frames];
@@ -1115,6 +1115,12 @@ public final class GrammarMachine {
                 }
             }
             state = FAILED;
+        }
+
+        private void failRule() {
+            if (!looking) {
+                memory.keepFailure(frameRules[frames], framePlaces[frames]);
+            }
         }
 
         private void push(int target, int rule) {

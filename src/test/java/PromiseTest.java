@@ -338,6 +338,7 @@ public final class PromiseTest {
         compileDue("A=.;B=B;C={};", UNSUPPORTED, 'B');
         compileDue("A={C};C=C;", UNSUPPORTED, 'C');
         compileDue("A={B};B=A/;", UNSUPPORTED, 'A');
+        compileDue("A=" + "{}".repeat(23) + ";", UNSUPPORTED, 'A');
     }
 
     private static void refusalDue(GrammarMachine x, String text, String thrown, int fault) {
@@ -614,9 +615,17 @@ public final class PromiseTest {
         due("what -1", outcome(() -> x.node(0, -1)), ARGUMENT);
         due("greatest what", outcome(() -> x.node(0, Integer.MAX_VALUE)), ARGUMENT);
         due("node 1", outcome(() -> x.node(1, 1)), 2);
+        x.feed('c');
+        due("no match after feed: node", outcome(() -> x.node(0, 0)), INDEX);
+        x.match(true);
+        x.compile();
+        due("no match after compile: node", outcome(() -> x.node(0, 0)), INDEX);
+        x.match(true);
+        x.clear();
+        due("no match after clear: node", outcome(() -> x.node(0, 0)), INDEX);
     }
 
-    /** As much as can be open at once: rows that are too short, or Java's own stack, would show here. */
+    /** As much as a text has room for, or can be open at once: rows that are too short, or Java's own stack, would show here. */
     private static void deepRuns() {
         GrammarMachine x = compiled("A={{{{{{B}}}}}};B={{{{{{C}}}}}};C={{{{{.A?}}}}};");
         feedAll(x, "0123456789");
@@ -628,6 +637,13 @@ public final class PromiseTest {
             due("deepest end", x.node(169, 1), 10);
             due("deepest outer", x.node(169, 2), 168);
         }
+        matchDue("A=" + ".+".repeat(23) + ";", "0123456789", -1, 9, 1, "");
+        matchDue("A=" + "/".repeat(46) + ".;", "0123456789", 0, 1, 1, "");
+        matchDue("A=" + ".?".repeat(23) + ";", "0123456789", 10, 10, 1, "");
+        matchDue("A=&(&(&(&(&(&('ab')?)?)?)?)?)?.;", "ab", 1, 12, 1, "");
+        matchDue("A=&(&(&(&(&(&('ab')?)?)?)?)?)?.;", "b", 1, 11, 1, "");
+        matchDue("A={{{{{{'ab'}+}+}+}+}+}+;", "abab", 4, 1, 1,
+                "0-4<-1 0-4<0 0-4<1 0-4<2 0-4<3 0-2<4 2-4<4");
         matchDue("A=&(!(!(&(&(&(.A/!.))))))B;B=C;C=D;D=.?E;E=.*;", "0123456789", 10, 132, 54, "");
     }
 }
