@@ -267,7 +267,8 @@ public final class PromiseTest {
         return all.toString();
     }
 
-    @Says("public int compile() throws IllegalArgumentException, IllegalStateException, UnsupportedOperationException;")
+    @Says("public int compile() throws IllegalArgumentException, IllegalStateException, "
+            + "UnsupportedOperationException;")
     private static void face_hasTheseMethodsAndNoOther() {
         TreeSet<String> found = new TreeSet<>();
         for (Method m : GrammarMachine.class.getDeclaredMethods()) {
@@ -506,7 +507,8 @@ public final class PromiseTest {
         grammars(2, text);
         for (int place = 0; place <= text.length(); place++) {
             String blanked = text.substring(0, place) + " " + text.substring(place);
-            if (blanked.contains(" b'") || blanked.contains("b '") || blanked.contains("[ b]") || blanked.contains("[b ]")) {
+            boolean inQuotes = blanked.contains("' b'") || blanked.contains("'b '");
+            if (inQuotes || blanked.contains("[ b]") || blanked.contains("[b ]")) {
                 grammars(2, blanked);
             } else {
                 noGrammar(blanked, place);
@@ -745,11 +747,12 @@ public final class PromiseTest {
             due("compile", outcome(x::compile), ARGUMENT);
         }
         retype(x, "A={{.}{.}}({.}{.}/{.})*;B=&(!(&(.)));C=.?;");
-        for (int i = 0; i < 100; i++) {
-            due("compile", outcome(x::compile), 3);
-        }
         feedAll(x, "abcde");
-        due("match", x.match(true), 5);
+        for (int i = 0; i < 10; i++) {
+            due("compile", outcome(x::compile), 3);
+            due("match", x.match(true), 5);
+            due("nodes", x.nodes(), 6);
+        }
         due("tree", tree(x), "0-2<-1 0-1<0 1-2<0 2-3<-1 3-4<-1 4-5<-1");
     }
 
@@ -772,7 +775,8 @@ public final class PromiseTest {
 
     @Says("A rule is UNDEFINED if its expression has a name without a rule")
     private static void promise04_undefinedWhereverTheNameStands() {
-        for (String e : new String[] {"B", ".B", "B.", "./B", "B?", "B*", "B+", "&B", "!B", "(B)", "{B}", "((.{.B?}))"}) {
+        String[] parts = {"B", ".B", "B.", "./B", "B?", "B*", "B+", "&B", "!B", "(B)", "{B}", "((.{.B?}))"};
+        for (String e : parts) {
             undefined("A=" + e + ";", 'A');
         }
         grammars(1, "A='B';", "A=[B];", "A='B'[B-D].;");
@@ -788,7 +792,8 @@ public final class PromiseTest {
         runaway("A=.;B=.(.?)*;", 'B');
     }
 
-    @Says("a sequence begins with the names that its first piece begins with, and, if that is empty, with those of the rest")
+    @Says("a sequence begins with the names that its first piece begins with, and, if that is empty, with "
+            + "those of the rest")
     private static void promise04_leftRecursiveBySequences() {
         runaway("A=A;", 'A');
         runaway("A=A.;", 'A');
@@ -816,7 +821,8 @@ public final class PromiseTest {
 
     @Says("any other expression with those of all its parts")
     private static void promise04_leftRecursiveByOtherParts() {
-        for (String e : new String[] {"./A.", "A/.", "././A", "A?", "(A.)*", "(A.)+", "&A.", "!A.", "(A)", "{A.}", ".?({(A.)})"}) {
+        String[] parts = {"./A.", "A/.", "././A", "A?", "(A.)*", "(A.)+", "&A.", "!A.", "(A)", "{A.}", ".?({(A.)})"};
+        for (String e : parts) {
             runaway("A=" + e + ";", 'A');
         }
         grammars(1, "A=(.&A)/.;", "A=.!A/.;", "A=(.A)*;", "A=(.A?)+;", "A={.A?};");
@@ -1009,7 +1015,8 @@ public final class PromiseTest {
         emptyDue("A=(.);", false);
     }
 
-    @Says("An expression is EMPTY if it can match without taking a character, as far as that is seen without looking at characters")
+    @Says("An expression is EMPTY if it can match without taking a character, as far as that is seen "
+            + "without looking at characters")
     private static void promise06_withoutLookingAtCharacters() {
         emptyDue("A='a';", false);
         emptyDue("A=[a];", false);
@@ -1100,7 +1107,8 @@ public final class PromiseTest {
         headDue("A=[a-a];", "a");
     }
 
-    @Says("itself where no item could have it as its sign (so [z-a] is z, - and a, [a-b-a] is a-b, - and a, [a--] is a, - and -; [--a] is from - to a)")
+    @Says("itself where no item could have it as its sign (so [z-a] is z, - and a, [a-b-a] is a-b, - and "
+            + "a, [a--] is a, - and -; [--a] is from - to a)")
     private static void promise07_theSignOfAnItem() {
         classDue("z-a", "z-a");
         classDue("a-b-a", "ab-");
@@ -1375,7 +1383,8 @@ public final class PromiseTest {
         takes("A=.('ab'/'ac').;", "xacx", 4);
     }
 
-    @Says("e? what e takes, or nothing; e* what e takes, again and again until it fails; e+ likewise, but e has to match once")
+    @Says("e? what e takes, or nothing; e* what e takes, again and again until it fails; e+ likewise, but "
+            + "e has to match once")
     private static void promise10_repetitions() {
         takes("A='ab'?;", "abab", 2);
         takes("A='ab'?;", "ac", 0);
@@ -1480,7 +1489,8 @@ public final class PromiseTest {
         due("the second time of e+", thousandTriesAnd(".+", "bb").match(true), -2);
     }
 
-    @Says("where e is not empty and the next character of the subject is not in its head (its end is in none), it makes no try")
+    @Says("where e is not empty and the next character of the subject is not in its head (its end is in "
+            + "none), it makes no try")
     private static void promise10_whatALookSparesIsNotOneMore() {
         due("e? at the end", thousandTriesAnd(".?", "").match(true), 0);
         due("e* at the end", thousandTriesAnd(".*", "").match(true), 0);
@@ -1514,7 +1524,7 @@ public final class PromiseTest {
         for (int turn = 0; turn < 3; turn++) {
             feedAll(x, "aaaaaaaaaa");
             due("gives up", x.match(true), -2);
-            feedAll(x, "b");
+            feedAll(x, "baaaaaaaaa");
             due("a failure is one", x.match(true), -1);
             due("without a try", x.work(), 0);
             feedAll(x, "ab");
@@ -1666,7 +1676,8 @@ public final class PromiseTest {
         tries("A=.!'a';", "a", 1);
     }
 
-    @Says("where e is not empty and the next character of the subject is not in its head (its end is in none), it makes no try: e has failed")
+    @Says("where e is not empty and the next character of the subject is not in its head (its end is in "
+            + "none), it makes no try: e has failed")
     private static void promise11_aLookSparesATry() {
         tries("A='a'?;", "b", 0);
         tries("A='a'?;", "", 0);
@@ -1681,7 +1692,8 @@ public final class PromiseTest {
         tries("A=('a'/)'b'/'c';", "b", 1);
     }
 
-    @Says("where e is not empty and the next character of the subject is not in its head (its end is in none), it makes no try: e has failed")
+    @Says("where e is not empty and the next character of the subject is not in its head (its end is in "
+            + "none), it makes no try: e has failed")
     private static void promise11_noLookSparesWhatIsEmpty() {
         tries("A=('a'?)?;", "b", 1);
         tries("A=('a'?)?;", "", 1);
@@ -1760,6 +1772,17 @@ public final class PromiseTest {
         due("compile", x.compile(), 2);
         due("another grammar", x.match(false), 2);
         due("its evaluations", x.work(), 2);
+    }
+
+    @Says("each rule's expression is matched at each place at most once")
+    private static void promise11_theMemoryDoesNotBecomeFull() {
+        GrammarMachine x = compiled("A=B'x'/B;B={{{{{{.}}}}}}*;");
+        feedAll(x, "0123456789");
+        for (int turn = 0; turn < 150; turn++) {
+            due("match", x.match(false), 10);
+            due("evaluations", x.work(), 2);
+            due("nodes", x.nodes(), 60);
+        }
     }
 
     // ---- Promise 12: nodes, and THE TREE ---------------------------------------------------
