@@ -27,7 +27,7 @@ public final class GrammarMachine {
     /** In each of the seven levels of brackets: choice, sequence, sign, repetition, capture; then a row. */
     private static final int MOST_LEVELS = 40;
 
-    /** The piece .+ makes seven instructions, the most that two characters of the text can make. */
+    /** The piece .+ makes six instructions, the most that two characters of the text can make. */
     private static final int MOST_CODE = 200;
 
     /** What is open without a character between takes a character of the text each: nothing comes to itself. */
